@@ -2,7 +2,7 @@ import java.util.Random;
 
 /** All promises: long runs of calls, drawn from fixed seeds, each answered by SlowPapers too. */
 public final class CompareTest {
-    private static final int RUNS = Integer.getInteger("runs", 400);
+    private static final int RUNS = Integer.getInteger("runs", 120);
     private static final int CALLS = 512;
     private static final Checks checks = new Checks("CompareTest");
 
@@ -28,6 +28,7 @@ public final class CompareTest {
     public static void main(String[] args) {
         for (int seed = 0; seed < RUNS && checks.wrong() == 0; seed++) {
             new CompareTest(seed).run();
+            SlowPapers.forget();
         }
         for (int seed = 0; seed < 6 && checks.wrong() == 0; seed++) {
             new CompareTest(seed).fullKinds();

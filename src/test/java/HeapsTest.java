@@ -59,6 +59,10 @@ public final class HeapsTest {
         checks.due("0 on 1 has an extra one: 8", others.heaps(), 1);
         others.bounds(60, 10, 7);
         checks.due("8 of 7", others.heaps(), 2);
+        others.bounds(60, 10, 8);
+        checks.due("8 of 8", others.heaps(), 1);
+        others.box(0, 30, 30, 7);
+        checks.due("a second extra one: 16", others.heaps(), 2);
     }
 
     private static void toldAndSorted() {
@@ -84,6 +88,14 @@ public final class HeapsTest {
         Checks.pageOf(papers, 10, 11, 5);
         checks.due("for a person", papers.sorted(3), 11);
         checks.due("those for a person are in none", papers.heap(3), NONE);
+        PaperKinds others = new PaperKinds();
+        others.bounds(5, 10, 1000);
+        Checks.pageOfKind(others, 0, 10, 10, 5);
+        Checks.pageOfKind(others, 0, 10, 10, 6);
+        Checks.pageOfKind(others, 0, 10, 10, 7);
+        checks.due("a told one that is unknown", others.sorted(1), 10);
+        checks.due("is in none", others.heap(1), NONE);
+        checks.due("and makes none", others.heaps(), 0);
     }
 
     private static void withoutBoxes() {

@@ -23,6 +23,11 @@ final class SlowPapers {
     // By all that a laying depends on, so that nothing can be out of date.
     private static final Map<List<Object>, Laying> LAYINGS = new HashMap<>();
 
+    /** Gives back the room that the layings of earlier runs take. */
+    static void forget() {
+        LAYINGS.clear();
+    }
+
     int page() {
         if (pages.size() == 16) {
             return -1;

@@ -46,6 +46,11 @@ public final class SortedTest {
         checks.due("above the limit it is unknown", papers.sorted(2), UNKNOWN);
         papers.bounds(3, 22, 30);
         checks.due("the next one may be above the limit", papers.sorted(2), PERSON);
+        Checks.pageOf(papers, 10, 43, 5);
+        checks.due("the next one may be a lower kind", papers.sorted(3), PERSON);
+        papers.bounds(3, 21, 30);
+        checks.due("and far enough above", papers.sorted(3), 4);
+        papers.bounds(3, 22, 30);
         papers.tell(2, 4);
         checks.due("told ones are asked so, too", papers.sorted(0), PERSON);
     }
