@@ -15,7 +15,8 @@ public final class TouchTest {
         PaperKinds papers = new PaperKinds();
         Checks.pageOf(papers, 10, 10, 5);
         Checks.pageOf(papers, 10, 11, 5);
-        Checks.pageOf(papers, 50, 50, 9, 40, 40, 8, 30, 30, 7, 20, 20, 6, 1, 1, 1, 2, 2, 2, 3, 3, 3);
+        Checks.pageOf(papers, 50, 50, 9, 40, 40, 8, 30, 30, 7, 20, 20, 6, 1, 1, 1, 2, 2, 2,
+                3, 3, 3);
         checks.due("all that come near, itself too", papers.touch(0, 2), 2);
         papers.bounds(1000, 10, 30);
         checks.due("all", papers.touch(0, 2), 3);
